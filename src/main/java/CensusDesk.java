@@ -950,8 +950,8 @@ public final class CensusDesk {
         }
 
         private void stop(int kind) {
-            boolean atHouseholdsEnd = kind >= BARE && kind <= ORDER;
-            if (!household.open || atHouseholdsEnd || kind >= STRAY) stopNow = true;
+            // BARE, TOLD, ORDER come up where the household ends: behind it is at once, too.
+            if (!household.open || kind >= STRAY) stopNow = true;
             else stopBehindHousehold = true;
         }
     }

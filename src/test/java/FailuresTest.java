@@ -6,6 +6,7 @@ public final class FailuresTest {
         factsOfAFailure();
         firsts();
         manyByGroups();
+        manyThrown();
         depths();
         onlyTheFirstAreKept();
         wrongNumbers();
@@ -47,6 +48,13 @@ public final class FailuresTest {
             + "10@35~5 3@37~1 11@43~5 9@53~5 15@4 20@55~0");
         int[] due = {-1, 1, 1, 2, 1, 1, 1, 1, 0, 1, 1, 1, 1, 0, 0, 1, 0, 0, 0, 1, 1, 0, 3, 2, 1, 7, 4, 1, 2, 15, -1};
         for (int kind = 0; kind < due.length; kind++) KIT.due("many(" + kind + ")", desk.many(kind), due[kind]);
+    }
+
+    private static void manyThrown() {
+        CensusDesk desk = Kit.deskWith("H|1|1\nP|A\u0001|m|1|\nH|2|1\nP|B\u0001|m|1|\n", 21, 1, 0);
+        KIT.due("receive", desk.receive(), 0);
+        int[] due = {1, 2, 8, 2, 13, 2, 18, 2, 21, 2, 22, 0, 23, 0, 24, 2, 25, 2, 26, 2, 27, 2, 28, 2, 29, 10};
+        for (int k = 0; k < due.length; k += 2) KIT.due("thrown: many(" + due[k] + ")", desk.many(due[k]), due[k + 1]);
     }
 
     private static void depths() {

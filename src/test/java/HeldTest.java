@@ -97,6 +97,17 @@ public final class HeldTest {
         desk.receive();
         desk.resume();
         KIT.due("one sheet was REJECTED", Kit.sums(desk), "0 0 0 0 0 0 0 1 0");
+        // A sheet that was to stop where it was REJECTED leaves no stop to the next one.
+        Kit.put(desk, "S|\u0001x\n");
+        desk.rule(1, STOP, 0);
+        KIT.due("REJECTED, and to stop", desk.receive(), 1);
+        Kit.put(desk, "H|1|0\nP|A\u0001|m|x|\nX\n");
+        KIT.due("REJECTED, and to stop behind the household", desk.receive(), 1);
+        Kit.put(desk, "H|1|1\nP|A|m|1|\nS|1\n");
+        KIT.due("the next is BOOKED", desk.receive(), 0);
+        desk = Kit.deskWith("P|A\nH|1|0\n", 19, STOP, 0);
+        desk.receive();
+        desk.resume();
         KIT.due("its failures are all there", Kit.failures(desk), "19@0 14@4 21@4>1~0");
     }
 

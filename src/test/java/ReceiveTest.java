@@ -9,6 +9,7 @@ public final class ReceiveTest {
         whatIsForgotten();
         roomForHouseholds();
         roomForPersons();
+        roomForNames();
         largestSheets();
         wrongWhat();
         KIT.finish();
@@ -133,6 +134,20 @@ public final class ReceiveTest {
         CensusDesk beyond = Kit.deskWith("H|1|x\n" + "P|A|m|1|\n".repeat(320) + "P|B|m|1|\nP|B|m|1|\n", 17, 1, 0, 4, 3, 0);
         beyond.receive();
         KIT.due("TWICE behind the 300th", beyond.many(17), 320);
+    }
+
+    /** The names of earlier sheets and households take no room from later ones. */
+    private static void roomForNames() {
+        String person = "P|" + "n".repeat(29) + "%c|m|1|\n";
+        StringBuilder text = new StringBuilder("H|1|x\n");
+        for (char last = 'a'; last <= 'z'; last++) text.append(person.formatted(last));
+        CensusDesk desk = Kit.deskWith(text.toString(), 4, 3, 0);
+        for (int n = 0; n < 11; n++) KIT.due("26 long names, " + n, desk.receive(), 0);
+        for (int n = 11; n < 30; n++) KIT.due("26 long names, " + n, desk.receive(), 3);
+        for (int i = 0; i < 286; i++) KIT.due("name " + i, Kit.name(desk, i), "n".repeat(29) + (char) ('a' + i % 26));
+        Kit.put(desk, "H|1|1\nP|" + "z".repeat(30) + "|m|1|\n");
+        KIT.due("one more", desk.receive(), 0);
+        KIT.due("its name", Kit.name(desk, 286), "z".repeat(30));
     }
 
     private static void largestSheets() {

@@ -11,6 +11,7 @@ public final class RuleTest {
         answers();
         refusals();
         nearestRule();
+        nearestRuleOfThrown();
         noneAgain();
         whileHeld();
         KIT.finish();
@@ -56,6 +57,21 @@ public final class RuleTest {
             CensusDesk bare = Kit.deskWith(sheets[kind]);
             bare.receive();
             KIT.due("way of kind " + kind + " without a rule", wayOf(bare, kind), 0);
+        }
+    }
+
+    /** The same for what comes up by a THROW alone: each with the kind that is thrown up to it. */
+    private static void nearestRuleOfThrown() {
+        String[] sheets = SheetsByKind.sheets();
+        int[][] thrown = {{8, 1}, {13, 2}, {18, 9}, {21, 14}};
+        for (int[] pair : thrown) {
+            for (int at = pair[0]; at != 0; at = GROUP_OF[at]) {
+                CensusDesk desk = Kit.deskWith(sheets[pair[1]]);
+                setOutward(desk, at);
+                desk.rule(pair[1], 0, 0);
+                desk.receive();
+                KIT.due("way of kind " + pair[0] + " by the rule of " + at, wayOf(desk, pair[0]), 3);
+            }
         }
     }
 

@@ -216,6 +216,7 @@ public final class WaysTest {
         CensusDesk desk = received("Hx|1|1\nP|A|m|1|\nSx\nPx\n", 0, "9@0 9@16 9@19~1", "4 1 0 1 22", 9, GATHER, 0);
         KIT.due("a household without its first line", Kit.house(desk, 0), "-1 -1 1 0 0");
         received("Hx|1|1\nP|A|m|1|\n", 0, "9@0 18@0>0", "2 1 0 1 16", 18, GATHER, 0);
+        received("H|1|0\n\u0000\n\u00ff\n", 0, "9@6 9@8~0 14@0", "3 1 0 0 10", 9, GATHER, 0, 14, GATHER, 0);
         received("h|1|1\n", 1, "9@0 21@0>0", "1 0 0 0 6");
         received("|\n", 1, "9@0 21@0>0", "1 0 0 0 2");
     }
