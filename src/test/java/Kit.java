@@ -44,6 +44,35 @@ final class Kit {
         return word;
     }
 
+    /** A desk that has received the sheet by the rules; due is its answer, its failures, and what sheet() tells. */
+    CensusDesk received(String sheet, int answer, String failures, String state, int... rules) {
+        CensusDesk desk = deskWith(sheet, rules);
+        String call = shown(sheet) + " by " + row(rules);
+        due(call, desk.receive(), answer);
+        due(call + ": failures", failures(desk), failures);
+        due(call + ": sheet", sheet(desk), state);
+        due(call + ": audit", desk.audit(), 0);
+        return desk;
+    }
+
+    /** The failures alone that come up by the rules. */
+    void comeUp(String sheet, String failures, int... rules) {
+        CensusDesk desk = deskWith(sheet, rules);
+        desk.receive();
+        due(shown(sheet) + " by " + row(rules) + ": failures", failures(desk), failures);
+    }
+
+    /** A sheet for a message: its bytes 10 as /, others that can't be shown as <n>. */
+    static String shown(String sheet) {
+        StringBuilder all = new StringBuilder();
+        for (char sign : sheet.toCharArray()) {
+            if (sign == 10) all.append('/');
+            else if (sign >= 32 && sign <= 126) all.append(sign);
+            else all.append('<').append((int) sign).append('>');
+        }
+        return all.length() <= 200 ? all.toString() : all.substring(0, 200) + "..";
+    }
+
     static CensusDesk deskWith(String text, int... rules) {
         CensusDesk desk = new CensusDesk();
         put(desk, text);
@@ -96,6 +125,21 @@ final class Kit {
     static int named(CensusDesk desk, String name) {
         byte[] bytes = name.getBytes(StandardCharsets.ISO_8859_1);
         return desk.named(word(bytes, 0), word(bytes, 4), word(bytes, 8), word(bytes, 12));
+    }
+
+    /** All that can be asked without a change: of the latest sheet, and of what is booked. */
+    static String everything(CensusDesk desk) {
+        StringBuilder all = new StringBuilder("failures ").append(desk.failures()).append(": ").append(failures(desk));
+        for (int i = 0; i < desk.failures() && i < 300; i++) {
+            all.append(' ').append(desk.failure(i, 4)).append('/').append(desk.depth(i));
+        }
+        for (int kind = 1; kind <= 29; kind++) all.append(kind == 1 ? "; many " : " ").append(desk.many(kind));
+        all.append("; sheet ").append(sheet(desk)).append("; sums ").append(sums(desk));
+        for (int i = 0; i < desk.sum(0); i++) all.append("; house ").append(house(desk, i));
+        for (int i = 0; i < desk.sum(1); i++) {
+            all.append("; person ").append(person(desk, i)).append(' ').append(name(desk, i));
+        }
+        return all.append("; audit ").append(desk.audit()).toString();
     }
 
     static String row(int... numbers) {

@@ -24,15 +24,8 @@ public final class WaysTest {
         KIT.finish();
     }
 
-    /** A desk that has received the sheet; what is due: the answer, the failures, and sheet(). */
     private static CensusDesk received(String sheet, int answer, String failures, String state, int... rules) {
-        CensusDesk desk = Kit.deskWith(sheet, rules);
-        String call = sheet.replace('\n', '/') + " by " + Kit.row(rules);
-        KIT.due(call, desk.receive(), answer);
-        KIT.due(call + ": failures", Kit.failures(desk), failures);
-        KIT.due(call + ": sheet", Kit.sheet(desk), state);
-        KIT.due(call + ": audit", desk.audit(), 0);
-        return desk;
+        return KIT.received(sheet, answer, failures, state, rules);
     }
 
     private static void foreign() {
