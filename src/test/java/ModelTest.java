@@ -18,6 +18,10 @@ public final class ModelTest {
     private static final String[] TRADES = {"", "", "0", "0", "3", "9", "12", "x", "\u009f4"};
     private static final String[] NUMBERS = {"x", "", "9999", "10000", "1234567", "3\u0003", "0"};
     private static final String[] ODDITIES = {"X", "Hx|1|1", "Px|a", "Sx", "H", "P", "S", "|", "H|", "P|Ann", "S|1|", "\u0000", "H|1|2|3"};
+    private static final String[] SCRAPS = {
+        "H", "P", "S", "|", "|", "|", "\n", "\n", "m", "f", "0", "1", "9", "a", "x", " ", "-", "\u0001", "\u00ff", "H|1|1\n",
+        "P|a|m|1|\n", "P|a|m|9|1\n", "S|1\n", "H|", "P|", "S|", "H|2|2\n", "\nH|3|", "\nP|ab|f|", "10|", "121|", "X\n"
+    };
     private static final int[] ODD_NUMBERS = {-1, 0, 1, 2, 31, 32, 63, 101, 126, 127, 999999};
 
     private final CensusDesk desk = new CensusDesk();
@@ -90,6 +94,7 @@ public final class ModelTest {
     }
 
     private String newSheet() {
+        if (below(4) == 0) return newScraps();
         StringBuilder text = new StringBuilder();
         int households = below(40) == 0 ? 70 : below(6);
         int number = below(5);
@@ -101,6 +106,13 @@ public final class ModelTest {
         }
         if (below(3) == 0 && text.length() > 0) text.setCharAt(below(text.length()), (char) below(256));
         if (below(2) == 0 && text.length() > 0) text.setLength(text.length() - 1);
+        return text.toString();
+    }
+
+    /** A sheet whose form is all chance. */
+    private String newScraps() {
+        StringBuilder text = new StringBuilder();
+        for (int left = below(60); left > 0; left--) text.append(any(SCRAPS));
         return text.toString();
     }
 
